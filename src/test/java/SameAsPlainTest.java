@@ -2,7 +2,7 @@ import java.util.Random;
 
 /** Runs of calls, the same ones each time, on BathWater and on PlainBath: all answers must be the same. */
 public final class SameAsPlainTest {
-    private static final int RUNS = 700, CALLS = 500;
+    private static final int RUNS = 300, CALLS = 500;
     private static final int[] ODD_NUMBERS = {-1, -2, Integer.MIN_VALUE, Integer.MAX_VALUE, 2, 3, 6, 7, 12, 13, 30, 31,
         63, 64, 99, 100, 400, 999, 1000, 8191, 8192, 99999, 100000, 1 << 30};
     private static final String[] PIECES = {"bath", "bather", "odd", ";", " ", "0", "1", "99", "100", "101", "999", "1000",
