@@ -6,6 +6,7 @@ public final class BathWater {
 
     private static final int BATHS = 2, BATHERS = 6, MORNINGS = 12, ENTRIES = 30, BYTES = 400;
     private static final int HOURS = 100, HEIGHTS = 100000, MILLION = 1000000, BILLION = 1000000000;
+    private static final int GREATEST_SEED = 2147483647;
 
     private final Reader reader = new Reader();
     private final Rows mornings = new Rows(MORNINGS);
@@ -360,7 +361,7 @@ public final class BathWater {
     }
 
     private int draw(int n) {
-        drawn = (int) ((drawn * 1103515245L + 12345L) & Integer.MAX_VALUE);
+        drawn = (int) ((drawn * 1103515245L + 12345L) & GREATEST_SEED);
         return n > 0 ? drawn / 65536 % n : 0;
     }
 
@@ -519,7 +520,7 @@ public final class BathWater {
             }
             for (int i = n - 1; i >= 0; i--) {
                 if (length < bytes.length) {
-                    bytes[length] = (byte) (more >>> 8 * i);
+                    bytes[length] = (byte) (more >>> (8 * i));
                     length++;
                 }
             }
@@ -972,7 +973,7 @@ public final class BathWater {
             for (int c = 0; c < heights.length; c++) {
                 if (has(present, c)) {
                     heights[c] = home.heightOf(bathOf(t), 0, home.inCase(setOf(t), c));
-                    all |= (long) leaderOf(c) << NIBBLE * c;
+                    all |= (long) leaderOf(c) << (NIBBLE * c);
                 }
             }
             return all;
@@ -1040,7 +1041,7 @@ public final class BathWater {
         }
 
         private static int leaderIn(long all, int c) {
-            return (int) (all >>> NIBBLE * c) & 15;
+            return (int) (all >>> (NIBBLE * c)) & 15;
         }
 
         int alikeTo(int c) {
@@ -1078,7 +1079,7 @@ public final class BathWater {
         }
 
         private static boolean isEnough(Cases tables, int open, int tries) {
-            if ((open & open - 1) == 0) {
+            if ((open & (open - 1)) == 0) {
                 return true;
             }
             if (tries <= 0 || open < 0 || open >= tables.known.length) {

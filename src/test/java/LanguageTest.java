@@ -22,8 +22,8 @@ public final class LanguageTest {
     private static final Set<String> CONSTANTS = Set.of("NONE", "UNKNOWN", "OUTSIDE", "NOT", "FULL");
     private static final String FORBIDDEN = "\\b(throw|throws|try|catch|synchronized|assert|lambda|equals|hashCode|toString"
         + "|System|Thread|Random|Object|record|HashMap|Exception|finally|volatile|native|transient|\\w+Exact)\\b|->|::|@";
-    private static final Set<String> LIBRARY = Set.of("Math.max", "Math.min", "Arrays.fill", "Integer.bitCount",
-        "Integer.numberOfTrailingZeros", "Integer.MAX_VALUE");
+    private static final Set<String> LIBRARY = Set.of("Math.max", "Math.min", "Arrays.fill",
+        "Integer.numberOfTrailingZeros");
 
     private static int wrong;
 
