@@ -463,14 +463,13 @@ public final class BathWater {
         }
 
         int leastOf(int b, int hour, int height) {
-            if (greatestOf(b, hour, height) == NONE) {
-                return NONE;
-            }
-            return Math.max(0, height * measure(b) - waterAt(b, hour));
+            int beyondWater = height * measure(b) - waterAt(b, hour);
+            return beyondWater + measure(b) > 0 ? Math.max(0, beyondWater) : NONE;
         }
 
         int greatestOf(int b, int hour, int height) {
-            return Math.max(NONE, height * measure(b) + measure(b) - 1 - waterAt(b, hour));
+            int beyondWater = height * measure(b) - waterAt(b, hour);
+            return Math.max(NONE, beyondWater + measure(b) - 1);
         }
 
         int finest() {
@@ -795,8 +794,8 @@ public final class BathWater {
             if (least[m] == NONE || set == 0 && least[m] != 0) {
                 return CLASHED;
             }
-            int lows = lowest(set);
-            int highs = highest(set);
+            int lows = sum(lower, set);
+            int highs = sum(upper, set);
             int step = STILL;
             for (int k = 0; k < lower.length && k < upper.length; k++) {
                 if (!has(set, k)) {
@@ -829,7 +828,7 @@ public final class BathWater {
         private static int sum(int[] row, int set) {
             int sum = 0;
             for (int k = 0; k < row.length; k++) {
-                sum += has(set, k) ? row[k] : 0;
+                sum += (set >> k & 1) * row[k];
             }
             return sum;
         }
@@ -856,27 +855,22 @@ public final class BathWater {
         int falseOnes;
 
         int fewest(House home, Rows mornings) {
-            if (!found) {
-                trial.load(home, mornings);
-                coreCount = 0;
-                falseOnes = search(home, mornings.count);
-                found = true;
+            if (found) {
+                return falseOnes;
             }
-            return falseOnes;
-        }
-
-        private int search(House home, int count) {
-            int all = (1 << count) - 1;
-            for (int many = 0; many <= count; many++) {
+            trial.load(home, mornings);
+            coreCount = 0;
+            found = true;
+            int all = (1 << mornings.count) - 1;
+            falseOnes = all;
+            for (int many = 0; many < mornings.count && falseOnes == all; many++) {
                 int out = (1 << many) - 1;
-                for (int turn = 0; turn <= all && out <= all; turn++) {
-                    if (isFree(home, out, all)) {
-                        return out;
-                    }
+                for (int turn = 0; turn <= all && out <= all && falseOnes == all; turn++) {
+                    falseOnes = isFree(home, out, all) ? out : all;
                     out = nextOfLikeCount(out, all);
                 }
             }
-            return all;
+            return falseOnes;
         }
 
         private boolean isFree(House home, int out, int all) {

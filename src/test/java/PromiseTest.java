@@ -1,15 +1,8 @@
 /** Promise by promise: ordinary calls, the edges that the document names, refusals and which of several comes first. */
-public final class PromiseTest {
-    private static final int NONE = -1, UNKNOWN = -1000000001, OUTSIDE = -1000000002, NOT = -1000000003, FULL = -1000000004;
-    private static final int LEAST = Integer.MIN_VALUE, MOST = Integer.MAX_VALUE;
-
+public final class PromiseTest extends Asker {
     /** A bath in which each size shows, a coarse one, and bathers of whom the last one never comes. */
     private static final String EXACT = "bath 1 1 10 2;bath 10 1 3 0;odd 4;"
         + "bather 1 100 5 50;bather 1 100 10 100;bather 20 30 25 0;";
-
-    private static int wrong;
-    private static int asked;
-    private static int promise;
 
     public static void main(String[] args) {
         newObject();
@@ -44,41 +37,11 @@ public final class PromiseTest {
         seed();
         keep();
         goBack();
-        System.out.println(asked + " answers asked, " + wrong + " wrong");
-        if (wrong != 0) {
-            System.exit(1);
-        }
-    }
-
-    private static void due(String call, int is, int due) {
-        asked++;
-        if (is != due) {
-            wrong++;
-            System.out.println("promise " + promise + ": " + call + " answered " + is + ", due is " + due);
-        }
-    }
-
-    private static void put(BathWater x, String text) {
-        for (int at = 0; at < text.length(); at++) {
-            x.feed(1, text.charAt(at));
-        }
-    }
-
-    private static BathWater with(String text) {
-        BathWater x = new BathWater();
-        put(x, text);
-        if (x.house() < 0) {
-            throw new IllegalArgumentException(text);
-        }
-        return x;
-    }
-
-    private static String times(int n, String text) {
-        return text.repeat(n);
+        finish();
     }
 
     private static void newObject() {
-        promise = 1;
+        about("promise 1");
         BathWater x = new BathWater();
         for (int what = 0; what < 7; what++) {
             due("told(" + what + ")", x.told(what), what == 2 ? 5 : 0);
@@ -102,7 +65,7 @@ public final class PromiseTest {
     }
 
     private static void feed() {
-        promise = 2;
+        about("promise 2");
         BathWater x = new BathWater();
         due("feed(0)", x.feed(0, 65), OUTSIDE);
         due("feed(9)", x.feed(9, 65), OUTSIDE);
@@ -129,7 +92,7 @@ public final class PromiseTest {
     }
 
     private static void house() {
-        promise = 3;
+        about("promise 3");
         BathWater x = with(EXACT);
         x.morning(0, 0, 1, 15);
         x.write(0, 0, 1, 14);
@@ -189,7 +152,7 @@ public final class PromiseTest {
     }
 
     private static void faults() {
-        promise = 3;
+        about("promise 3");
         good("", 0, 0);
         good("   ", 0, 0);
         good("bath1 1 0 0;", 1, 0);
@@ -257,7 +220,7 @@ public final class PromiseTest {
     }
 
     private static void faultsThatComeFirst() {
-        promise = 3;
+        about("promise 3");
         text("bath 0 x", 2, 5);
         text("bather 5 0 5 5;", 2, 9);
         text("bather 5 4 1000 x", 4, 9);
@@ -271,7 +234,7 @@ public final class PromiseTest {
     }
 
     private static void fault() {
-        promise = 4;
+        about("promise 4");
         BathWater x = new BathWater();
         due("fault()", x.fault(), NONE);
         put(x, "odd 5 ");
@@ -293,7 +256,7 @@ public final class PromiseTest {
     }
 
     private static void told() {
-        promise = 5;
+        about("promise 5");
         BathWater x = with(EXACT);
         x.morning(0, 0, 1, 15);
         x.morning(0, 0, 2, 20);
@@ -311,7 +274,7 @@ public final class PromiseTest {
     }
 
     private static void bath() {
-        promise = 6;
+        about("promise 6");
         BathWater x = with("bath 11 12 13 14;bath 21 22 23 24;");
         for (int what = 0; what < 4; what++) {
             due("bath(0, " + what + ")", x.bath(0, what), 11 + what);
@@ -325,7 +288,7 @@ public final class PromiseTest {
     }
 
     private static void bather() {
-        promise = 7;
+        about("promise 7");
         BathWater x = with("bath 1 1 0 0;bather 10 40 20 30;bather 50 80 60 70;");
         int[] first = {10, 40, 20, 30, 10, 40};
         int[] second = {50, 80, 60, 70, 50, 80};
@@ -347,7 +310,7 @@ public final class PromiseTest {
     }
 
     private static void height() {
-        promise = 8;
+        about("promise 8");
         BathWater x = with("bath 4 2 40 3;bath 1 1 0 0;bather 1 9 7 1;bather 1 99 25 1;");
         due("water alone", x.height(0, 0, 0), 5);
         due("cut", x.height(0, 0, 1), 5);
@@ -366,7 +329,7 @@ public final class PromiseTest {
     }
 
     private static void span() {
-        promise = 9;
+        about("promise 9");
         BathWater x = with("bath 4 2 43 3;bath 99 99 0 0;");
         due("the least", x.span(0, 0, 9, 0), 29);
         due("the greatest", x.span(0, 0, 9, 1), 36);
@@ -390,7 +353,7 @@ public final class PromiseTest {
     }
 
     private static void morning() {
-        promise = 10;
+        about("promise 10");
         BathWater x = with(EXACT);
         due("no bath", x.morning(2, 0, 0, 10), UNKNOWN);
         due("no such set", x.morning(0, 0, 8, 10), UNKNOWN);
@@ -412,7 +375,7 @@ public final class PromiseTest {
     }
 
     private static void narrowed() {
-        promise = 10;
+        about("promise 10");
         BathWater x = with("bath 10 1 0 0;bather 1 99 42 0;bather 1 99 17 0;bather 1 99 8 0;");
         x.morning(0, 0, 3, 5);
         due("50 to 59 of two", x.bather(0, 5), 58);
@@ -452,7 +415,7 @@ public final class PromiseTest {
     }
 
     private static void strike() {
-        promise = 11;
+        about("promise 11");
         BathWater x = with("bath 1 1 0 0;bather 1 99 1 0;bather 1 99 1 0;bather 1 99 1 0;");
         due("none", x.strike(0), UNKNOWN);
         x.morning(0, 0, 1, 10);
@@ -472,7 +435,7 @@ public final class PromiseTest {
     }
 
     private static void wrong() {
-        promise = 12;
+        about("promise 12");
         BathWater x = with("bath 1 1 0 0;bather 1 99 1 0;bather 1 99 1 0;");
         x.morning(0, 0, 1, 10);
         due("no clash", x.wrong(), 0);
@@ -506,7 +469,7 @@ public final class PromiseTest {
     }
 
     private static void canBe() {
-        promise = 13;
+        about("promise 13");
         BathWater x = with("bath 1 1 10 0;bather 5 7 5 0;bather 10 12 10 0;bather 16 16 16 0;");
         due("how many", x.canBe(0, 0, 26, -1), 2);
         due("0", x.canBe(0, 0, 26, 0), 3);
@@ -538,7 +501,7 @@ public final class PromiseTest {
     }
 
     private static void likely() {
-        promise = 14;
+        about("promise 14");
         BathWater x = with("bath 1 1 0 0;bather 5 5 5 50;bather 10 10 10 20;bather 15 15 15 80;bather 9 9 9 0;");
         due("in the likelier", x.likely(0, 0, 15, 2), 941176);
         due("in the other", x.likely(0, 0, 15, 0), 58823);
@@ -563,7 +526,7 @@ public final class PromiseTest {
     }
 
     private static void odds() {
-        promise = 15;
+        about("promise 15");
         BathWater x = with(times(6, "bather 1 1 1 33;"));
         due("all, cut bather by bather", x.odds(63), 1291467);
         due("none, cut bather by bather", x.odds(0), 90458381);
@@ -576,7 +539,7 @@ public final class PromiseTest {
     }
 
     private static void tells() {
-        promise = 16;
+        about("promise 16");
         BathWater x = with(EXACT);
         due("nothing is odd", x.tells(0, 3, 0), 25);
         due("0 is more", x.tells(0, 3, 1), 29);
@@ -599,7 +562,7 @@ public final class PromiseTest {
     }
 
     private static void alike() {
-        promise = 17;
+        about("promise 17");
         BathWater x = with("bath 10 1 0 0;odd 5;bather 1 9 2 0;bather 1 99 21 0;bather 1 9 1 0;");
         due("0 is told by no finger more", x.alike(1), 1 | 2 | 4 | 8 | 128 | 512);
         due("nor is 2", x.alike(9), 1 | 2 | 4 | 8 | 128 | 512);
@@ -620,7 +583,7 @@ public final class PromiseTest {
     }
 
     private static void needed() {
-        promise = 18;
+        about("promise 18");
         BathWater x = with("bath 1 1 0 0;odd 5;bather 1 99 10 0;bather 1 99 20 0;");
         due("none", x.needed(0, 0), 0);
         due("none, no bath", x.needed(0, 1), NONE);
@@ -664,7 +627,7 @@ public final class PromiseTest {
     }
 
     private static void neededFirst() {
-        promise = 18;
+        about("promise 18");
         BathWater x = with("bath 99 99 0 0;bath 1 1 0 0;odd 1;" + "bather 1 9 1 0;bather 1 9 2 0;bather 1 9 4 0;bather 1 9 8 0;");
         due("the bath that tells", x.needed(1 | 2, 1), 1);
         due("which of four is more", x.needed(2 | 4 | 8 | 16, 0), 2);
@@ -680,7 +643,7 @@ public final class PromiseTest {
     }
 
     private static void away() {
-        promise = 19;
+        about("promise 19");
         due("by whom alone it shows", with("bath 10 1 0 0;bather 1 9 5 0;bather 1 99 10 0;").away(), 0);
         due("the second", with("bath 10 1 0 0;bather 1 99 10 0;bather 1 9 5 0;").away(), 1);
         due("each shows alone", with(EXACT).away(), NONE);
@@ -694,7 +657,7 @@ public final class PromiseTest {
     }
 
     private static void called() {
-        promise = 20;
+        about("promise 20");
         BathWater x = with("bath 5 2 0 0;bath 2 2 7 1;bather 1 100 50 1;bather 10 20 15 1;bather 30 30 30 1;");
         due("above 0", x.called(0, 0), 2);
         due("above 0", x.called(0, 1), 3);
@@ -729,7 +692,7 @@ public final class PromiseTest {
     }
 
     private static void write() {
-        promise = 21;
+        about("promise 21");
         BathWater x = with(EXACT);
         due("no bath", x.write(2, 0, 0, 10), UNKNOWN);
         due("no such set", x.write(0, 0, 8, 10), UNKNOWN);
@@ -750,7 +713,7 @@ public final class PromiseTest {
     }
 
     private static void tear() {
-        promise = 22;
+        about("promise 22");
         BathWater x = with(EXACT);
         due("none", x.tear(), 0);
         x.write(0, 0, 1, 10);
@@ -765,7 +728,7 @@ public final class PromiseTest {
     }
 
     private static void judge() {
-        promise = 23;
+        about("promise 23");
         BathWater x = with(EXACT);
         due("empty", x.judge(), NONE);
         x.write(0, 0, 3, 25);
@@ -786,7 +749,7 @@ public final class PromiseTest {
     }
 
     private static void drift() {
-        promise = 24;
+        about("promise 24");
         BathWater x = with("bath 1 1 10 3;bather 1 100 5 1;bather 1 100 10 68;bather 20 20 20 89;");
         due("a morning", x.drift(0, 1), 1);
         due("0 and 2 are in", x.bather(0, 4), 5);
@@ -830,7 +793,7 @@ public final class PromiseTest {
     }
 
     private static void forget() {
-        promise = 25;
+        about("promise 25");
         BathWater x = with(EXACT);
         due("none", x.forget(), 0);
         x.morning(0, 0, 1, 15);
@@ -848,7 +811,7 @@ public final class PromiseTest {
     }
 
     private static void seed() {
-        promise = 26;
+        about("promise 26");
         BathWater x = new BathWater();
         due("0 at first", x.seed(5), 0);
         due("as it was set", x.seed(MOST), 5);
@@ -859,7 +822,7 @@ public final class PromiseTest {
     }
 
     private static void keep() {
-        promise = 27;
+        about("promise 27");
         BathWater x = with(EXACT);
         due("keep(2)", x.keep(2), UNKNOWN);
         due("keep(-1)", x.keep(-1), UNKNOWN);
@@ -882,7 +845,7 @@ public final class PromiseTest {
     }
 
     private static void goBack() {
-        promise = 28;
+        about("promise 28");
         BathWater x = with(EXACT);
         due("goBack(2)", x.goBack(2), UNKNOWN);
         due("goBack(-1)", x.goBack(-1), UNKNOWN);
