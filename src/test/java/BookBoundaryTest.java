@@ -16,6 +16,7 @@ public final class BookBoundaryTest extends Asker {
         tearHowMany();
         wrongTheFirst();
         wrongByOneFinger();
+        wrongInEachBath();
         wrongNone();
         driftOneToThirty();
         driftUpToTheRoom();
@@ -28,6 +29,7 @@ public final class BookBoundaryTest extends Asker {
         seedBounds();
         seedWrapsAround();
         seedIsCutBy65536();
+        lastOf512Calls();
         seedStaysWhenRefused();
         imagesZeroAndOne();
         imagesNotKept();
@@ -139,6 +141,26 @@ public final class BookBoundaryTest extends Asker {
         due("judge(), cut", cut.judge(), NONE);
         cut.write(0, 0, 1, 4);
         due("judge()", cut.judge(), 3);
+    }
+
+    private static void wrongInEachBath() {
+        about("3: (BATH, HOUR, SET, HEIGHT), in each BATH at each HOUR");
+        BathWater x = with("bath 10 1 0 0;bath 1 1 99 1;bather 1 999 25 50;");
+        x.morning(0, 0, 1, 2);
+        for (int i = 0; i < 30; i++) {
+            int hour = 33 * (i / 2 % 4);
+            x.write(i % 2, hour, 1, i % 2 == 0 ? 2 : 99 - hour + 25);
+        }
+        due("judge(), all true", x.judge(), NONE);
+        x.tear();
+        x.write(1, 99, 1, 2);
+        due("judge(), the other BATH's HEIGHT", x.judge(), 0);
+        x.tear();
+        x.write(0, 0, 1, 124);
+        due("judge(), the other BATH's HEIGHT", x.judge(), 0);
+        x.tear();
+        x.write(1, 98, 1, 25);
+        due("judge(), another HOUR's HEIGHT", x.judge(), 0);
     }
 
     private static void wrongNone() {
@@ -337,6 +359,19 @@ public final class BookBoundaryTest extends Asker {
         x.seed(MOST);
         x.drift(0, 30);
         due("behind 2147483647, 210 times", x.seed(0), 694321605);
+    }
+
+    private static void lastOf512Calls() {
+        about("An object is used for at most 512 calls after it has been made");
+        BathWater x = new BathWater();
+        put(x, "bath 9 9 9 0;");
+        x.house();
+        long seed = 0;
+        for (int call = 4; call <= 511; call++) {
+            due("drift(0, 1), call " + call, x.drift(0, 1), Math.min(12, call - 3));
+            seed = next(seed);
+        }
+        due("seed(0), call 512", x.seed(0), (int) seed);
     }
 
     private static void seedIsCutBy65536() {

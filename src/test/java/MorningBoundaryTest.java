@@ -37,6 +37,7 @@ public final class MorningBoundaryTest extends Asker {
         canBeNobody();
         canBeAll();
         canBeTheIth();
+        byTheHeightOfItsBathAndHour();
         likelyFromNoneToMillion();
         likelyWithoutAny();
         likelyIsCut();
@@ -470,6 +471,7 @@ public final class MorningBoundaryTest extends Asker {
                 x.morning(0, 0, 1, i == one ? 501 : 500);
             }
             due("wrong(), one of 12 is", x.wrong(), 1 << one);
+            due("wrong() again", x.wrong(), 1 << one);
             x.strike(one);
             due("wrong() without it", x.wrong(), 0);
         }
@@ -612,6 +614,21 @@ public final class MorningBoundaryTest extends Asker {
         due("canBe(0, 99, 5, 0)", x.canBe(0, 99, 5, 0), 1);
         due("canBe(0, 0, 100000, 0)", x.canBe(0, 0, 100000, 0), OUTSIDE);
         due("canBe(0, 0, 99999, -1)", x.canBe(0, 0, 99999, NONE), 0);
+    }
+
+    private static void byTheHeightOfItsBathAndHour() {
+        about("13, 14: by a HEIGHT, of each BATH at each HOUR");
+        BathWater x = with("bath 10 1 0 0;bath 1 1 198 2;bather 5 9 7 50;bather 30 35 33 50;");
+        for (int hour = 0; hour <= 99; hour++) {
+            int water = 198 - 2 * hour;
+            due("canBe(1, " + hour + ", ..), nobody", x.canBe(1, hour, water, 0), 0);
+            due("canBe(1, " + hour + ", ..), the lesser", x.canBe(1, hour, water + 9, 0), 1);
+            due("likely(1, " + hour + ", .., 0)", x.likely(1, hour, water + 9, 0), 1000000);
+            due("likely(1, " + hour + ", .., 1)", x.likely(1, hour, water + 10, 1), 0);
+        }
+        due("canBe(0, 99, 3, -1)", x.canBe(0, 99, 3, NONE), 2);
+        due("likely(0, 99, 3, 0)", x.likely(0, 99, 3, 0), 500000);
+        due("likely(0, 3, 3, 1)", x.likely(0, 3, 3, 1), 1000000);
     }
 
     private static void likelyFromNoneToMillion() {
